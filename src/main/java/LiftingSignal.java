@@ -763,30 +763,29 @@ public final class LiftingSignal {
 
         /** What a rule of prediction tells for a position between two samples. */
         private long predicted(int rule, int left, int at, int right) {
-            switch (rule) {
-                case LEFT:
-                    return value[left];
-                case NEAR:
-                    return isLeftNear(left, at, right) ? value[left] : value[right];
-                default:
-                    int way = at - source.position[left];
-                    int span = source.position[right] - source.position[left];
-                    return value[left] + scaled(value[right] - value[left], way, span);
+            if (rule == LEFT || rule == NEAR && isLeftNear(left, at, right)) {
+                return value[left];
             }
+            if (rule == NEAR) {
+                return value[right];
+            }
+            int way = at - source.position[left];
+            int span = source.position[right] - source.position[left];
+            return value[left] + scaled(value[right] - value[left], way, span);
         }
 
         /** The part of a sample's weight that its left neighbour gets. */
         private long shareOf(int left, int sample, int right) {
             int at = source.position[sample];
-            switch (predict) {
-                case LEFT:
-                    return weight[sample];
-                case NEAR:
-                    return isLeftNear(left, at, right) ? weight[sample] : 0;
-                default:
-                    int span = source.position[right] - source.position[left];
-                    return scaled(weight[sample], source.position[right] - at, span);
+            if (predict == LEFT || predict == NEAR && isLeftNear(left, at, right)) {
+                return weight[sample];
             }
+            if (predict == NEAR) {
+                return 0;
+            }
+            int way = source.position[right] - at;
+            int span = source.position[right] - source.position[left];
+            return scaled(weight[sample], way, span);
         }
 
         int liftChosen(int most) {
