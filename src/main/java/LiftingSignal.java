@@ -578,15 +578,15 @@ public final class LiftingSignal {
 
         final Source source;
         final long[] value = new long[MOST_SAMPLES];
-        // A lifted sample's weight stays here: it is the one with which it was lifted.
+        // A lifted sample's weight stays here: with it, it was lifted and will be present again.
         final long[] weight = new long[MOST_SAMPLES];
         final int[] stepOf = new int[MOST_SAMPLES];
         final Step[] steps = new Step[MOST_STEPS];
         int stepCount = 0;
         long drift = 0;
-        int split = SPAN;
-        int predict = LINEAR;
-        boolean isKeep = true;
+        int split;
+        int predict;
+        boolean isKeep;
 
         State(Source source) {
             this.source = source;
@@ -848,7 +848,6 @@ public final class LiftingSignal {
             value[right] -= step.rightGain();
             weight[left] = step.leftWeight;
             weight[right] = step.rightWeight;
-            weight[step.sample] = step.weight;
             value[step.sample] = predicted(step.predict, left, source.position[step.sample], right) + step.detail;
             stepOf[step.sample] = NONE;
             drift -= sumBefore(step);

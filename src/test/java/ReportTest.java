@@ -26,6 +26,8 @@ public final class ReportTest {
         promise18Bits();
         promise19Largest();
         promise20Next();
+        mostSamples();
+        fewerSamplesThanBefore();
         Check.end();
     }
 
@@ -228,6 +230,65 @@ public final class ReportTest {
         Check.refused("largest(2)", NO_INDEX, () -> signal.largest(2));
         Check.refused("largest(-1)", NO_INDEX, () -> signal.largest(-1));
         Check.refused("largest(0) without steps", NO_INDEX, () -> new LiftingSignal().largest(0));
+    }
+
+    /** 48 samples with the value 0, the last one with 47; lifted by left, all details are 0. */
+    private static void mostSamples() {
+        LiftingSignal signal = Check.loaded("predict left;" + TextTest.samples(48));
+        signal.set(47, 47);
+        counts("most, present", signal, 48, 48, 0, 0, 0, 0, 1, 2, 94);
+        Check.same("most: present(47)", signal.present(47), 47);
+        Check.same("most: right of 47", signal.neighbour(47, true), NONE);
+        Check.same("most: valueAt(47)", signal.valueAt(47), 47);
+        Check.same("most: integral", signal.integral(), 47);
+        Check.same("most: mean(0)", signal.mean(0), 1);
+        Check.same("most: mean(1)", signal.mean(1), 2);
+        Check.sameDouble("most: plainMean", signal.plainMean(), 47.0 / 48.0);
+        Check.same("most: next", signal.next(), 1);
+        Check.same("most: bitsBy", signal.bitsBy(0, 0), 46);
+        Check.same("most: bestScheme", signal.bestScheme(), 0);
+        Check.same("most: error(1)", signal.error(1), 47);
+        Check.same("most: forward", signal.forward(46), 46);
+        counts("most, lifted", signal, 48, 2, 46, 46, 0, 0, 1, 2, 94);
+        Check.same("most: energy", signal.energy(), 0);
+        Check.same("most: bits", signal.bits(), 46);
+        Check.same("most: largest(45)", signal.largest(45), 45);
+        Check.same("most: error(0)", signal.error(0), 47);
+        Check.same("most: error(1) with steps", signal.error(1), 47);
+        Check.same("most: error(2)", signal.error(2), 1);
+        Check.same("most: bestThreshold", signal.bestThreshold(47), 1000);
+        Check.refused("most: bestThreshold(46)", NoSuchElementException.class, () -> signal.bestThreshold(46));
+        Check.same("most: keepLargest(46)", signal.keepLargest(46), 0);
+        Check.same("most: threshold", signal.threshold(0, true), 46);
+        Check.same("most: quantize", signal.quantize(7), 0);
+        Check.same("most: keepLargest", signal.keepLargest(1), 0);
+        signal.save(0);
+        signal.reset();
+        signal.restore(0);
+        Check.same("most: inverse", signal.inverse(46), 46);
+        Check.same("most: value of 47", signal.sample(47, 3), 47);
+    }
+
+    private static void fewerSamplesThanBefore() {
+        LiftingSignal signal = Check.loaded(TextTest.samples(48));
+        signal.noise(1, 999);
+        signal.forward(46);
+        signal.setDetail(1, 99999);
+        Check.type(signal, FOUR);
+        signal.load();
+        counts("fewer", signal, 4, 4, 0, 0, 0, 2, 1, 2, 20);
+        Check.same("fewer: right of 3", signal.neighbour(3, true), NONE);
+        Check.same("fewer: integral", signal.integral(), 292);
+        Check.sameDouble("fewer: plainMean", signal.plainMean(), 14.5);
+        Check.same("fewer: error(1)", signal.error(1), 0);
+        Check.same("fewer: bestScheme", signal.bestScheme(), 2);
+        Check.same("fewer: energy", signal.energy(), 0);
+        Check.same("fewer: bits", signal.bits(), 0);
+        Check.same("fewer: next", signal.next(), 2);
+        Check.same("fewer: forward", signal.forward(46), 2);
+        Check.same("fewer", Check.fingerprint(signal), Check.fingerprint(twoSteps()));
+        Check.same("fewer: bits of two steps", signal.bits(), 8);
+        Check.same("fewer: threshold", signal.threshold(4, false), 1);
     }
 
     private static void promise20Next() {

@@ -18,6 +18,7 @@ public final class StepTest {
         promise28LiftLeft();
         promise28LiftNear();
         promise28LiftNone();
+        promise28LiftElsewhere();
         promise28Refused();
         promise29Inverse();
         promise29KeepsTheRules();
@@ -96,6 +97,12 @@ public final class StepTest {
         Check.same("a refused noise changes nothing", Check.fingerprint(lifted), before);
         lifted.inverse(1);
         lifted.noise(1, 5);
+        LiftingSignal most = Check.loaded(TextTest.samples(48));
+        long sum = most.noise(4711, 999);
+        for (int sample = 0; sample < 48; sample++) {
+            sum -= most.sample(sample, 3);
+        }
+        Check.same("the sum of 48 values", sum, 0);
     }
 
     private static void promise26Reset() {
@@ -137,11 +144,7 @@ public final class StepTest {
         Check.same("forward with least", least.forward(46), 1);
         Check.same("present then", least.count(1), 3);
         Check.refused("forward at least", STATE, () -> least.forward(1));
-        StringBuilder text = new StringBuilder();
-        for (int sample = 0; sample < 48; sample++) {
-            text.append("at").append(sample).append(" 0;");
-        }
-        LiftingSignal most = Check.loaded(text.toString());
+        LiftingSignal most = Check.loaded(TextTest.samples(48));
         Check.same("forward(46) of 48", most.forward(46), 46);
         Check.same("two are left", most.count(1), 2);
     }
@@ -207,6 +210,14 @@ public final class StepTest {
         signal.setUpdate(false);
         signal.setPredict(0);
         step("set to none and left, 1", signal, 1, 12, 8, 12, 6, 10, 6, 252 - 156);
+    }
+
+    private static void promise28LiftElsewhere() {
+        String moved = "at 2090 10; at 2094 22; at 2098 6; at 2100 20;";
+        step("linear, moved", Check.loaded(moved), 2, -14, 2, 10, 6, 15, 16, 6);
+        step("left, moved", Check.loaded("predict left;" + moved), 2, -16, 6, 14, 2, 15, 19, 4);
+        step("near, moved", Check.loaded("predict near;" + moved), 2, -14, 0, 8, 8, 16, 14, 12);
+        step("near, moved, 1", Check.loaded("predict near;" + moved), 1, 12, 8, 12, 6, 16, 9, 6);
     }
 
     private static void promise28Refused() {

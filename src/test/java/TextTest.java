@@ -140,7 +140,7 @@ public final class TextTest {
         Check.same("48 samples: the last one", Check.loaded(samples(48)).sample(47, 0), 47);
     }
 
-    private static String samples(int number) {
+    static String samples(int number) {
         StringBuilder text = new StringBuilder();
         for (int sample = 0; sample < number; sample++) {
             text.append("at").append(sample).append(" 0;");
@@ -176,6 +176,17 @@ public final class TextTest {
         error("at -1 0; at 1 0;", 1, 3);
         error("at 0 0; att 1 0;", 1, 8);
         error("at 0 0; a 1 0;", 1, 8);
+        error("at 0 0; atz 1 0;", 1, 8);
+        error("bt 0 0; at 1 0;", 1, 0);
+        error("plit span; at 0 0; at 1 0;", 1, 0);
+        error("a".repeat(700), 1, 0);
+        error("1".repeat(700), 1, 0);
+        error(" ".repeat(700), 1, 700);
+        error(" ".repeat(699) + "-", 1, 699);
+        error("at 0 0; at{ 1 0;", 1, 10);
+        error("at 0 0; at` 1 0;", 1, 10);
+        error("at 0 0: at 1 0;", 1, 6);
+        error("at 0 0; at 1/ 0;", 1, 12);
         error("at 0 0; At 1 0;", 1, 8);
         error("at 0 0; at 1 0; \tat 2 0;", 1, 16);
         error("at 0 0; at 1 0; at 2 0\u00e1;", 1, 22);
