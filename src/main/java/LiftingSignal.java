@@ -352,7 +352,8 @@ public final class LiftingSignal {
     public int bestThreshold(int error) throws IllegalArgumentException, NoSuchElementException {
         needRange(error, 0, MOST_ERROR);
         long threshold = MOST_BEST_THRESHOLD;
-        // All thresholds above an amount, up to the next greater one, cut the same details: 1000 and the amounts do.
+        // From above an amount up to the next greater one, thresholds cut the same details: so only the greatest
+        // threshold and the amounts below it can be the answer.
         for (int tries = 0; tries <= MOST_STEPS && threshold >= 0; tries++) {
             if (errorOfCut((int) threshold, false) <= error) {
                 return (int) threshold;
@@ -445,7 +446,7 @@ public final class LiftingSignal {
         return trial.bitsOfDetails();
     }
 
-    /** The greatest common divisor with a positive number; 1 if the number is not positive. */
+    /** The greatest common divisor with a positive number, at least 1; 1 if that number is not positive. */
     private static long commonDivisor(long number, long positive) {
         if (positive <= 0) {
             return 1;
