@@ -134,7 +134,7 @@ public final class LiftingSignal {
             case 2:
                 return now.isPresent(sample) ? 1 : 0;
             case 3:
-                return now.isPresent(sample) ? now.value[sample] : NONE;
+                return now.isPresent(sample) ? now.value[sample].toLong() : NONE;
             case 4:
                 return now.weight[sample];
             case 5:
@@ -165,7 +165,7 @@ public final class LiftingSignal {
             case 2:
                 return kept.right;
             case 3:
-                return kept.detail;
+                return kept.detail.toLong();
             case 4:
                 return kept.weight;
             case 5:
@@ -179,27 +179,26 @@ public final class LiftingSignal {
         if (position < source.position[0] || position > source.position[source.count - 1]) {
             throw new IndexOutOfBoundsException("the position is outside of the samples");
         }
-        return now.lineAt(position);
+        return now.lineAt(position).toLong();
     }
 
     public long integral() {
-        return now.integralNow();
+        return now.integral.toLong();
     }
 
     public long drift() {
-        return now.drift;
+        return now.driftNow().toLong();
     }
 
     public long mean(int part) throws IllegalArgumentException {
         needRange(part, 0, 1);
-        long integral = now.integralNow();
         long weights = now.weightSum();
-        long divisor = commonDivisor(integral, weights);
-        return (part == 0 ? integral : weights) / divisor;
+        long divisor = commonDivisor(weights, now.integral.restOfAmount(weights));
+        return part == 0 ? now.integralBy(divisor).toLong() : weights / divisor;
     }
 
     public double plainMean() {
-        return (double) now.valueSum() / (double) now.presentCount();
+        return now.valueSum().toDouble() / (double) now.presentCount();
     }
 
     public long energy() {
@@ -252,8 +251,8 @@ public final class LiftingSignal {
         if (!now.isPresent(sample)) {
             refuse(NOT_PRESENT, LIFTED_ALREADY, sample);
         }
-        long previous = now.value[sample];
-        now.value[sample] = value;
+        long previous = now.value[sample].toLong();
+        now.changeValue(sample, value);
         return previous;
     }
 
@@ -263,7 +262,7 @@ public final class LiftingSignal {
             refuse(SOME_LIFTED, 0, NONE);
         }
         now.addNoise(seed, level);
-        return now.valueSum();
+        return now.valueSum().toLong();
     }
 
     public int reset() {
@@ -307,8 +306,8 @@ public final class LiftingSignal {
     public long setDetail(int step, int detail) throws IndexOutOfBoundsException, IllegalArgumentException {
         needIndex(step, now.stepCount);
         needRange(detail, -MOST_DETAIL, MOST_DETAIL);
-        long previous = now.steps[step].detail;
-        now.steps[step].detail = detail;
+        long previous = now.steps[step].detail.toLong();
+        now.steps[step].detail.become(detail);
         return previous;
     }
 
@@ -325,7 +324,7 @@ public final class LiftingSignal {
 
     public long keepLargest(int number) throws IllegalArgumentException {
         needRange(number, 0, MOST_STEPS);
-        return now.dropFromRank(number);
+        return now.dropFromRank(number).toLong();
     }
 
     // ---- what it costs; nothing changes
@@ -336,9 +335,9 @@ public final class LiftingSignal {
         trial.invertLatest(MOST_STEPS);
         switch (what) {
             case 0:
-                return trial.greatestDifference();
+                return trial.greatestDifference().toLong();
             case 1:
-                return trial.differenceSum();
+                return trial.differenceSum().toLong();
             default:
                 return trial.differenceCount();
         }
@@ -346,7 +345,7 @@ public final class LiftingSignal {
 
     public long errorWith(int threshold, boolean isSoft) throws IllegalArgumentException {
         needRange(threshold, 0, MOST_THRESHOLD);
-        return errorOfCut(threshold, isSoft);
+        return errorOfCut(threshold, isSoft).toLong();
     }
 
     public int bestThreshold(int error) throws IllegalArgumentException, NoSuchElementException {
@@ -355,7 +354,7 @@ public final class LiftingSignal {
         // From above an amount up to the next greater one, thresholds cut the same details: so only the greatest
         // threshold and the amounts below it can be the answer.
         for (int tries = 0; tries <= MOST_STEPS && threshold >= 0; tries++) {
-            if (errorOfCut((int) threshold, false) <= error) {
+            if (errorOfCut((int) threshold, false).isAmountBelow(error + 1L)) {
                 return (int) threshold;
             }
             threshold = now.greatestAmountBelow(threshold);
@@ -366,15 +365,19 @@ public final class LiftingSignal {
     public int bitsBy(int split, int predict) throws IllegalArgumentException {
         needRange(split, SPAN, DETAIL);
         needRange(predict, LEFT, LINEAR);
-        return bitsOfScheme(split, predict);
+        beginTrial(split, predict);
+        trial.liftChosen(MOST_STEPS);
+        return trial.bitsOfDetails();
     }
 
     public int bestScheme() {
         int best = 0;
-        int fewest = bitsOfScheme(SPAN, LEFT);
-        for (int scheme = 1; scheme < SCHEMES; scheme++) {
-            int bits = bitsOfScheme(scheme / 3, scheme % 3);
-            if (bits < fewest) {
+        int fewest = 0;
+        for (int scheme = 0; scheme < SCHEMES; scheme++) {
+            beginTrial(scheme / 3, scheme % 3);
+            trial.liftChosen(MOST_STEPS);
+            int bits = trial.bitsOfDetails();
+            if (scheme == 0 || bits < fewest) {
                 best = scheme;
                 fewest = bits;
             }
@@ -430,43 +433,241 @@ public final class LiftingSignal {
         throw new IllegalStateException("the state does not allow it; reason() tells why");
     }
 
-    private long errorOfCut(int threshold, boolean isSoft) {
+    private Whole errorOfCut(int threshold, boolean isSoft) {
         trial.copyFrom(now);
         trial.cutDetails(threshold, isSoft);
         trial.invertLatest(MOST_STEPS);
         return trial.greatestDifference();
     }
 
-    private int bitsOfScheme(int split, int predict) {
+    private void beginTrial(int split, int predict) {
         trial.begin();
         trial.split = split;
         trial.predict = predict;
         trial.isKeep = now.isKeep;
-        trial.liftChosen(MOST_STEPS);
-        return trial.bitsOfDetails();
     }
 
-    /** The greatest common divisor with a positive number, at least 1; 1 if that number is not positive. */
-    private static long commonDivisor(long number, long positive) {
-        if (positive <= 0) {
-            return 1;
-        }
-        long greater = positive;
-        long lesser = Math.floorMod(number, positive);
+    /** The greatest common divisor of a positive number and of a rest from it, at least 1. */
+    private static long commonDivisor(long positive, long rest) {
+        long greater = Math.max(positive, 1);
+        long lesser = rest;
         for (int rounds = 0; rounds < 1000 && lesser > 0; rounds++) {
-            long rest = greater % lesser;
+            long next = greater % lesser;
             greater = lesser;
-            lesser = rest;
+            lesser = next;
         }
         return greater;
     }
 
-    /** floor(number * part / whole); number is split first, so that no product grows beyond a long on the way. */
-    private static long scaled(long number, long part, long whole) {
-        if (whole <= 0) {
+    /**
+     * A whole number of any size: its amount in limbs of 32 bits, the lowest first, and its sign. Values and details
+     * can outgrow a long, and so can what lies between numbers that do not; the answers must not suffer from it.
+     * Factors and divisors stay below 2 to the power of 30: they are made of weights, positions, and limits of the face.
+     */
+    private static final class Whole {
+        private static final int LIMB_BITS = 32;
+        private static final long LIMB_MASK = 0xffffffffL;
+        // A step makes the greatest number less than four times as great: 512 calls of 46 steps do not lead beyond.
+        private static final int MOST_LIMBS = 1500;
+        private static final int MORE_THAN_DOUBLE_BITS = 62;
+
+        private int[] limbs = new int[2];
+        // The highest limb in use is not 0; with none in use, the lowest one is 0 all the same, and the sign is not set.
+        private int used = 0;
+        private boolean isNegative = false;
+
+        void become(long number) {
+            isNegative = number < 0;
+            long amount = isNegative ? -number : number;
+            limbs[0] = (int) amount;
+            limbs[1] = (int) (amount >>> LIMB_BITS);
+            used = limbs[1] != 0 ? 2 : limbs[0] != 0 ? 1 : 0;
+        }
+
+        void copyFrom(Whole other) {
+            limbs[0] = other.limbs[0];
+            if (other.used > 1) {
+                makeRoom(other.used);
+                System.arraycopy(other.limbs, 0, limbs, 0, other.used);
+            }
+            used = other.used;
+            isNegative = other.isNegative;
+        }
+
+        void dropSign() {
+            isNegative = false;
+        }
+
+        /** Adds a multiple of another number. */
+        void add(Whole other, long factor) {
+            if (used <= 1 && other.used <= 1) {
+                become(lowest() + other.lowest() * factor);
+                return;
+            }
+            int length = makeRoom(Math.max(used, other.used) + 1);
+            if (isSumBelowZero(other, isNegative == other.isNegative ? factor : -factor, length)) {
+                turn();
+            }
+            trim();
+        }
+
+        /** Becomes floor(this * part / whole), for a part that is not negative. */
+        void scale(long part, long whole) {
+            if (whole <= 0) {
+                return;
+            }
+            if (used <= 1) {
+                become(Math.floorDiv(lowest() * part, whole));
+                return;
+            }
+            int length = makeRoom(used + 1);
+            // Below zero, rounding down makes the amount greater.
+            multiply(part, isNegative ? whole - 1 : 0, length);
+            divide(whole);
+            trim();
+        }
+
+        boolean isZero() {
+            return used == 0;
+        }
+
+        boolean isBelowZero() {
+            return isNegative;
+        }
+
+        boolean isAmountBelow(long limit) {
+            return used <= 1 && (limbs[0] & LIMB_MASK) < limit;
+        }
+
+        int compareAmount(Whole other) {
+            if (used != other.used) {
+                return used < other.used ? -1 : 1;
+            }
+            for (int i = used - 1; i >= 0; i--) {
+                if (limbs[i] != other.limbs[i]) {
+                    return (limbs[i] & LIMB_MASK) < (other.limbs[i] & LIMB_MASK) ? -1 : 1;
+                }
+            }
             return 0;
         }
-        return Math.floorDiv(number, whole) * part + Math.floorDiv(Math.floorMod(number, whole) * part, whole);
+
+        /** The rest when the amount is divided by a number. */
+        long restOfAmount(long divisor) {
+            long rest = 0;
+            for (int i = used - 1; i >= 0 && divisor > 0; i--) {
+                rest = (rest << LIMB_BITS | limbs[i] & LIMB_MASK) % divisor;
+            }
+            return rest;
+        }
+
+        int bitsOfAmount() {
+            return used == 0 ? 0 : used * LIMB_BITS - Integer.numberOfLeadingZeros(limbs[used - 1]);
+        }
+
+        /** The number, if a long can hold it; else what its lowest 64 bits tell. */
+        long toLong() {
+            return isNegative ? -amountFrom(0) : amountFrom(0);
+        }
+
+        /** The double that is nearest to the number. */
+        double toDouble() {
+            int shift = Math.max(0, bitsOfAmount() - MORE_THAN_DOUBLE_BITS);
+            // Bits that are shifted out can still decide how the others are rounded.
+            double amount = (double) (isAnyBitBelow(shift) ? amountFrom(shift) | 1 : amountFrom(shift));
+            for (int i = 0; i < shift; i++) {
+                amount *= 2;
+            }
+            return isNegative ? -amount : amount;
+        }
+
+        private long lowest() {
+            return isNegative ? -(limbs[0] & LIMB_MASK) : limbs[0] & LIMB_MASK;
+        }
+
+        private long limbAt(int i) {
+            return i < used ? limbs[i] & LIMB_MASK : 0;
+        }
+
+        /** 64 bits of the amount, from a bit on. */
+        private long amountFrom(int bit) {
+            int first = bit / LIMB_BITS;
+            int within = bit % LIMB_BITS;
+            long lower = limbAt(first + 1) << LIMB_BITS | limbAt(first);
+            return within == 0 ? lower : lower >>> within | limbAt(first + 2) << 2 * LIMB_BITS - within;
+        }
+
+        private boolean isAnyBitBelow(int bit) {
+            int whole = bit / LIMB_BITS;
+            for (int i = 0; i < whole; i++) {
+                if (limbAt(i) != 0) {
+                    return true;
+                }
+            }
+            return (limbAt(whole) & (1L << bit % LIMB_BITS) - 1) != 0;
+        }
+
+        /** Makes room for some limbs, and tells for how many there is room. */
+        private int makeRoom(int length) {
+            int possible = Math.min(length, MOST_LIMBS);
+            if (possible > limbs.length) {
+                int[] more = new int[Math.min(2 * possible, MOST_LIMBS)];
+                System.arraycopy(limbs, 0, more, 0, used);
+                limbs = more;
+            }
+            return possible;
+        }
+
+        /** Adds a multiple of another amount; if the sum is below 0, it is left as what it lacks to a carry. */
+        private boolean isSumBelowZero(Whole other, long factor, int length) {
+            long carry = 0;
+            for (int i = 0; i < length; i++) {
+                long own = i < used ? limbs[i] & LIMB_MASK : 0;
+                long added = i < other.used ? other.limbs[i] & LIMB_MASK : 0;
+                carry += own + added * factor;
+                limbs[i] = (int) carry;
+                carry >>= LIMB_BITS;
+            }
+            used = length;
+            return carry < 0;
+        }
+
+        private void turn() {
+            long carry = 1;
+            for (int i = 0; i < used; i++) {
+                carry += ~limbs[i] & LIMB_MASK;
+                limbs[i] = (int) carry;
+                carry >>>= LIMB_BITS;
+            }
+            isNegative = !isNegative;
+        }
+
+        private void multiply(long factor, long added, int length) {
+            long carry = added;
+            for (int i = 0; i < length; i++) {
+                carry += i < used ? (limbs[i] & LIMB_MASK) * factor : 0;
+                limbs[i] = (int) carry;
+                carry >>>= LIMB_BITS;
+            }
+            used = length;
+        }
+
+        private void divide(long divisor) {
+            long rest = 0;
+            for (int i = used - 1; i >= 0 && divisor > 0; i--) {
+                rest = rest << LIMB_BITS | limbs[i] & LIMB_MASK;
+                limbs[i] = (int) (rest / divisor);
+                rest %= divisor;
+            }
+        }
+
+        private void trim() {
+            while (used > 0 && limbs[used - 1] == 0) {
+                used--;
+            }
+            if (used == 0) {
+                isNegative = false;
+            }
+        }
     }
 
     /** What a text tells: the samples and the settings. */
@@ -523,7 +724,7 @@ public final class LiftingSignal {
         long share;
         int predict;
         boolean isKeep;
-        long detail;
+        final Whole detail = new Whole();
 
         void copyFrom(Step other) {
             sample = other.sample;
@@ -535,7 +736,7 @@ public final class LiftingSignal {
             share = other.share;
             predict = other.predict;
             isKeep = other.isKeep;
-            detail = other.detail;
+            detail.copyFrom(other.detail);
         }
 
         long leftWeightAfter() {
@@ -545,65 +746,49 @@ public final class LiftingSignal {
         long rightWeightAfter() {
             return rightWeight + (weight - share);
         }
-
-        long leftGain() {
-            return gain(leftWeightAfter());
-        }
-
-        long rightGain() {
-            return gain(rightWeightAfter());
-        }
-
-        private long gain(long ownWeight) {
-            if (!isKeep) {
-                return 0;
-            }
-            long e = leftWeightAfter();
-            long f = rightWeightAfter();
-            return scaled(detail, weight * ownWeight, e * e + f * f);
-        }
-
-        /** Moves the amount of the detail toward 0, or makes it 0. */
-        void cut(int threshold, boolean isSoft) {
-            if (Math.abs(detail) < threshold) {
-                detail = 0;
-            } else if (isSoft) {
-                detail = detail < 0 ? detail + threshold : detail - threshold;
-            }
-        }
     }
 
-    /** The samples and the steps as they stand, with the drift and the settings that can be changed. */
+    /**
+     * The samples and the steps as they stand, with the settings that can be changed. The integral is kept instead of
+     * the drift: no step and no inversion changes it, and the drift is what it has beyond the present samples.
+     */
     private static final class State {
-        private static final int BITS_OF_LONG = 64;
-
         final Source source;
-        final long[] value = new long[MOST_SAMPLES];
+        final Whole[] value = new Whole[MOST_SAMPLES];
         // A lifted sample's weight stays here: with it, it was lifted and will be present again.
         final long[] weight = new long[MOST_SAMPLES];
         final int[] stepOf = new int[MOST_SAMPLES];
         final Step[] steps = new Step[MOST_STEPS];
         int stepCount = 0;
-        long drift = 0;
+        final Whole integral = new Whole();
         int split;
         int predict;
         boolean isKeep;
+        private final Whole one = new Whole();
+        // Each report uses these two again; what it tells holds until the next one.
+        private final Whole part = new Whole();
+        private final Whole result = new Whole();
 
         State(Source source) {
             this.source = source;
             for (int step = 0; step < MOST_STEPS; step++) {
                 steps[step] = new Step();
             }
+            for (int sample = 0; sample < MOST_SAMPLES; sample++) {
+                value[sample] = new Whole();
+            }
+            one.become(1);
         }
 
         void begin() {
+            integral.become(0);
             for (int sample = 0; sample < source.count; sample++) {
-                value[sample] = source.original[sample];
+                value[sample].become(source.original[sample]);
                 weight[sample] = source.firstWeight(sample);
                 stepOf[sample] = NONE;
+                integral.add(value[sample], weight[sample]);
             }
             stepCount = 0;
-            drift = 0;
         }
 
         void takeSettings() {
@@ -613,14 +798,16 @@ public final class LiftingSignal {
         }
 
         void copyFrom(State other) {
-            System.arraycopy(other.value, 0, value, 0, MOST_SAMPLES);
+            for (int sample = 0; sample < source.count; sample++) {
+                value[sample].copyFrom(other.value[sample]);
+            }
             System.arraycopy(other.weight, 0, weight, 0, MOST_SAMPLES);
             System.arraycopy(other.stepOf, 0, stepOf, 0, MOST_SAMPLES);
             for (int step = 0; step < other.stepCount; step++) {
                 steps[step].copyFrom(other.steps[step]);
             }
             stepCount = other.stepCount;
-            drift = other.drift;
+            integral.copyFrom(other.integral);
             split = other.split;
             predict = other.predict;
             isKeep = other.isKeep;
@@ -677,32 +864,39 @@ public final class LiftingSignal {
             return sum;
         }
 
-        long valueSum() {
-            long sum = 0;
+        Whole valueSum() {
+            result.become(0);
             for (int sample = 0; sample < source.count; sample++) {
                 if (isPresent(sample)) {
-                    sum += value[sample];
+                    result.add(value[sample], 1);
                 }
             }
-            return sum;
+            return result;
         }
 
-        long integralNow() {
-            long sum = drift;
+        Whole driftNow() {
+            result.copyFrom(integral);
             for (int sample = 0; sample < source.count; sample++) {
                 if (isPresent(sample)) {
-                    sum += weight[sample] * value[sample];
+                    result.add(value[sample], -weight[sample]);
                 }
             }
-            return sum;
+            return result;
         }
 
-        long lineAt(int at) {
+        Whole integralBy(long divisor) {
+            result.copyFrom(integral);
+            result.scale(1, divisor);
+            return result;
+        }
+
+        Whole lineAt(int at) {
             int left = 0;
             for (int sample = 1; sample < source.count; sample++) {
                 if (isPresent(sample)) {
                     if (at <= source.position[sample]) {
-                        return predicted(LINEAR, left, at, sample);
+                        predictInto(result, LINEAR, left, at, sample);
+                        return result;
                     }
                     left = sample;
                 }
@@ -710,12 +904,20 @@ public final class LiftingSignal {
             return value[left];
         }
 
+        void changeValue(int sample, int to) {
+            integral.add(value[sample], -weight[sample]);
+            value[sample].become(to);
+            integral.add(value[sample], weight[sample]);
+        }
+
         void addNoise(int seed, int level) {
             int range = 2 * level + 1;
             int random = seed;
             for (int sample = 0; sample < source.count && range > 0; sample++) {
                 random = random * 1103515245 + 12345;
-                value[sample] += (random >>> 16) % range - level;
+                int added = (random >>> 16) % range - level;
+                value[sample].add(one, added);
+                integral.add(one, weight[sample] * added);
             }
         }
 
@@ -726,8 +928,9 @@ public final class LiftingSignal {
             if (presentCount() <= source.least) {
                 return NONE;
             }
+            Whole cost = part;
+            Whole leastCost = result;
             int best = NONE;
-            long leastCost = 0;
             int left = NONE;
             int middle = NONE;
             for (int right = 0; right < source.count; right++) {
@@ -735,10 +938,10 @@ public final class LiftingSignal {
                     continue;
                 }
                 if (left != NONE) {
-                    long cost = cost(left, middle, right);
-                    if (best == NONE || cost < leastCost) {
+                    costInto(cost, left, middle, right);
+                    if (best == NONE || cost.compareAmount(leastCost) < 0) {
                         best = middle;
-                        leastCost = cost;
+                        leastCost.copyFrom(cost);
                     }
                 }
                 left = middle;
@@ -747,14 +950,19 @@ public final class LiftingSignal {
             return best;
         }
 
-        private long cost(int left, int sample, int right) {
+        /** The sample with the least amount of this is lifted first. */
+        private void costInto(Whole into, int left, int sample, int right) {
             switch (split) {
                 case SPAN:
-                    return source.position[right] - source.position[left];
+                    into.become(source.position[right] - source.position[left]);
+                    break;
                 case DYADIC:
-                    return Integer.numberOfTrailingZeros(sample);
+                    into.become(Integer.numberOfTrailingZeros(sample));
+                    break;
                 default:
-                    return Math.abs(value[sample] - predicted(predict, left, source.position[sample], right));
+                    predictInto(into, predict, left, source.position[sample], right);
+                    into.add(value[sample], -1);
+                    break;
             }
         }
 
@@ -763,16 +971,17 @@ public final class LiftingSignal {
         }
 
         /** What a rule of prediction tells for a position between two samples. */
-        private long predicted(int rule, int left, int at, int right) {
+        private void predictInto(Whole into, int rule, int left, int at, int right) {
             if (rule == LEFT || rule == NEAR && isLeftNear(left, at, right)) {
-                return value[left];
+                into.copyFrom(value[left]);
+                return;
             }
-            if (rule == NEAR) {
-                return value[right];
+            into.copyFrom(value[right]);
+            if (rule == LINEAR) {
+                into.add(value[left], -1);
+                into.scale(at - source.position[left], source.position[right] - source.position[left]);
+                into.add(value[left], 1);
             }
-            int way = at - source.position[left];
-            int span = source.position[right] - source.position[left];
-            return value[left] + scaled(value[right] - value[left], way, span);
         }
 
         /** The part of a sample's weight that its left neighbour gets. */
@@ -781,12 +990,11 @@ public final class LiftingSignal {
             if (predict == LEFT || predict == NEAR && isLeftNear(left, at, right)) {
                 return weight[sample];
             }
-            if (predict == NEAR) {
+            int span = source.position[right] - source.position[left];
+            if (predict == NEAR || span <= 0) {
                 return 0;
             }
-            int way = source.position[right] - at;
-            int span = source.position[right] - source.position[left];
-            return scaled(weight[sample], way, span);
+            return weight[sample] * (source.position[right] - at) / span;
         }
 
         int liftChosen(int most) {
@@ -819,16 +1027,15 @@ public final class LiftingSignal {
             step.share = shareOf(left, sample, right);
             step.predict = predict;
             step.isKeep = isKeep;
-            step.detail = value[sample] - predicted(predict, left, source.position[sample], right);
-            drift += sumBefore(step);
-            value[left] += step.leftGain();
-            value[right] += step.rightGain();
+            predictInto(part, predict, left, source.position[sample], right);
+            step.detail.copyFrom(value[sample]);
+            step.detail.add(part, -1);
+            addGains(step, 1);
             weight[left] = step.leftWeightAfter();
             weight[right] = step.rightWeightAfter();
-            drift -= sumAfter(step);
             stepOf[sample] = stepCount;
             stepCount++;
-            return step.detail;
+            return step.detail.toLong();
         }
 
         int invertLatest(int most) {
@@ -842,39 +1049,34 @@ public final class LiftingSignal {
         }
 
         private void invertStep(Step step) {
-            int left = step.left;
-            int right = step.right;
-            drift += sumAfter(step);
-            value[left] -= step.leftGain();
-            value[right] -= step.rightGain();
-            weight[left] = step.leftWeight;
-            weight[right] = step.rightWeight;
-            value[step.sample] = predicted(step.predict, left, source.position[step.sample], right) + step.detail;
+            addGains(step, -1);
+            weight[step.left] = step.leftWeight;
+            weight[step.right] = step.rightWeight;
+            predictInto(value[step.sample], step.predict, step.left, source.position[step.sample], step.right);
+            value[step.sample].add(step.detail, 1);
             stepOf[step.sample] = NONE;
-            drift -= sumBefore(step);
         }
 
-        /** What the sample and its neighbours give to the integral while the sample is present. */
-        private long sumBefore(Step step) {
-            return step.leftWeight * value[step.left] + step.rightWeight * value[step.right]
-                    + step.weight * value[step.sample];
-        }
-
-        /** What the neighbours give to the integral while the sample is lifted. */
-        private long sumAfter(Step step) {
-            return step.leftWeightAfter() * value[step.left] + step.rightWeightAfter() * value[step.right];
+        private void addGains(Step step, int times) {
+            if (!step.isKeep) {
+                return;
+            }
+            long e = step.leftWeightAfter();
+            long f = step.rightWeightAfter();
+            part.copyFrom(step.detail);
+            part.scale(step.weight * e, e * e + f * f);
+            value[step.left].add(part, times);
+            part.copyFrom(step.detail);
+            part.scale(step.weight * f, e * e + f * f);
+            value[step.right].add(part, times);
         }
 
         // -- details
 
-        private long amount(int step) {
-            return Math.abs(steps[step].detail);
-        }
-
         int zeroDetails() {
             int zeros = 0;
             for (int step = 0; step < stepCount; step++) {
-                if (steps[step].detail == 0) {
+                if (steps[step].detail.isZero()) {
                     zeros++;
                 }
             }
@@ -884,7 +1086,8 @@ public final class LiftingSignal {
         long energyOfDetails() {
             long sum = 0;
             for (int step = 0; step < stepCount; step++) {
-                sum += steps[step].weight * steps[step].detail * steps[step].detail;
+                long detail = steps[step].detail.toLong();
+                sum += steps[step].weight * detail * detail;
             }
             return sum;
         }
@@ -892,17 +1095,16 @@ public final class LiftingSignal {
         int bitsOfDetails() {
             int sum = 0;
             for (int step = 0; step < stepCount; step++) {
-                sum += 1 + BITS_OF_LONG - Long.numberOfLeadingZeros(amount(step));
+                sum += 1 + steps[step].detail.bitsOfAmount();
             }
             return sum;
         }
 
         private int rankOf(int step) {
-            long own = amount(step);
             int rank = 0;
             for (int other = 0; other < stepCount; other++) {
-                long amount = amount(other);
-                if (amount > own || amount == own && other < step) {
+                int compared = steps[other].detail.compareAmount(steps[step].detail);
+                if (compared > 0 || compared == 0 && other < step) {
                     rank++;
                 }
             }
@@ -920,33 +1122,40 @@ public final class LiftingSignal {
 
         void cutDetails(int threshold, boolean isSoft) {
             for (int step = 0; step < stepCount; step++) {
-                steps[step].cut(threshold, isSoft);
+                Whole detail = steps[step].detail;
+                if (detail.isAmountBelow(threshold)) {
+                    detail.become(0);
+                } else if (isSoft) {
+                    detail.add(one, detail.isBelowZero() ? threshold : -threshold);
+                }
             }
         }
 
         long quantizeDetails(int quantum) {
             long changes = 0;
-            for (int step = 0; step < stepCount && quantum > 0; step++) {
-                long amount = amount(step);
-                long rest = amount % quantum;
+            for (int step = 0; step < stepCount; step++) {
+                Whole detail = steps[step].detail;
+                long rest = detail.restOfAmount(quantum);
                 long change = 2 * rest > quantum ? quantum - rest : -rest;
-                steps[step].detail += steps[step].detail < 0 ? -change : change;
+                detail.add(one, detail.isBelowZero() ? -change : change);
                 changes += Math.abs(change);
             }
             return changes;
         }
 
         /** Makes the details of a rank and of all behind it 0; tells the greatest amount among them. */
-        long dropFromRank(int rank) {
+        Whole dropFromRank(int rank) {
+            Whole greatest = result;
+            greatest.become(0);
             int first = stepOfRank(rank);
-            if (first == NONE) {
-                return 0;
+            if (first != NONE) {
+                greatest.copyFrom(steps[first].detail);
+                greatest.dropSign();
             }
-            long greatest = amount(first);
-            for (int step = 0; step < stepCount; step++) {
-                long amount = amount(step);
-                if (amount < greatest || amount == greatest && step >= first) {
-                    steps[step].detail = 0;
+            for (int step = 0; step < stepCount && first != NONE; step++) {
+                int compared = steps[step].detail.compareAmount(greatest);
+                if (compared < 0 || compared == 0 && step >= first) {
+                    steps[step].detail.become(0);
                 }
             }
             return greatest;
@@ -956,9 +1165,8 @@ public final class LiftingSignal {
         long greatestAmountBelow(long limit) {
             long greatest = NONE;
             for (int step = 0; step < stepCount; step++) {
-                long amount = amount(step);
-                if (amount < limit && amount > greatest) {
-                    greatest = amount;
+                if (steps[step].detail.isAmountBelow(limit)) {
+                    greatest = Math.max(greatest, Math.abs(steps[step].detail.toLong()));
                 }
             }
             return greatest;
@@ -966,30 +1174,37 @@ public final class LiftingSignal {
 
         // -- differences from the original values, of present samples
 
-        private long difference(int sample) {
-            return Math.abs(value[sample] - source.original[sample]);
+        private void differenceInto(Whole into, int sample) {
+            into.copyFrom(value[sample]);
+            into.add(one, -source.original[sample]);
+            into.dropSign();
         }
 
-        long greatestDifference() {
-            long greatest = 0;
+        Whole greatestDifference() {
+            result.become(0);
             for (int sample = 0; sample < source.count; sample++) {
-                greatest = Math.max(greatest, difference(sample));
+                differenceInto(part, sample);
+                if (part.compareAmount(result) > 0) {
+                    result.copyFrom(part);
+                }
             }
-            return greatest;
+            return result;
         }
 
-        long differenceSum() {
-            long sum = 0;
+        Whole differenceSum() {
+            result.become(0);
             for (int sample = 0; sample < source.count; sample++) {
-                sum += difference(sample);
+                differenceInto(part, sample);
+                result.add(part, 1);
             }
-            return sum;
+            return result;
         }
 
         int differenceCount() {
             int differing = 0;
             for (int sample = 0; sample < source.count; sample++) {
-                if (difference(sample) != 0) {
+                differenceInto(part, sample);
+                if (!part.isZero()) {
                     differing++;
                 }
             }
