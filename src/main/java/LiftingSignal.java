@@ -505,7 +505,8 @@ public final class LiftingSignal {
                 return;
             }
             int length = makeRoom(Math.max(used, other.used) + 1);
-            if (isSumBelowZero(other, isNegative == other.isNegative ? factor : -factor, length)) {
+            long carry = addAmount(other, isNegative == other.isNegative ? factor : -factor, length);
+            if (carry < 0) {
                 turn();
             }
             trim();
@@ -573,11 +574,12 @@ public final class LiftingSignal {
         double toDouble() {
             int shift = Math.max(0, bitsOfAmount() - MORE_THAN_DOUBLE_BITS);
             // Bits that are shifted out can still decide how the others are rounded.
-            double amount = (double) (isAnyBitBelow(shift) ? amountFrom(shift) | 1 : amountFrom(shift));
+            long highest = isAnyBitBelow(shift) ? amountFrom(shift) | 1 : amountFrom(shift);
+            double number = (double) (isNegative ? -highest : highest);
             for (int i = 0; i < shift; i++) {
-                amount *= 2;
+                number *= 2;
             }
-            return isNegative ? -amount : amount;
+            return number;
         }
 
         private long lowest() {
@@ -617,8 +619,8 @@ public final class LiftingSignal {
             return possible;
         }
 
-        /** Adds a multiple of another amount; if the sum is below 0, it is left as what it lacks to a carry. */
-        private boolean isSumBelowZero(Whole other, long factor, int length) {
+        /** Adds a multiple of another amount and tells the carry; it is below 0 if the limbs are a two's complement now. */
+        private long addAmount(Whole other, long factor, int length) {
             long carry = 0;
             for (int i = 0; i < length; i++) {
                 long own = i < used ? limbs[i] & LIMB_MASK : 0;
@@ -628,9 +630,10 @@ public final class LiftingSignal {
                 carry >>= LIMB_BITS;
             }
             used = length;
-            return carry < 0;
+            return carry;
         }
 
+        /** Changes the sign, and the limbs to their two's complement. */
         private void turn() {
             long carry = 1;
             for (int i = 0; i < used; i++) {

@@ -10,7 +10,7 @@ import java.util.stream.IntStream;
 
 /** The document once more, word by word and without regard to cost, with numbers of any size. */
 public final class Model {
-    /** An answer that no long can tell: the document leaves open what is answered then. */
+    /** An answer that no long can tell: the document leaves open what is answered then. The call is made all the same. */
     static final class TooGreat extends RuntimeException {
         private static final long serialVersionUID = 1;
     }
@@ -444,12 +444,11 @@ public final class Model {
     public long mean(int part) {
         range(part, 0, 1);
         BigInteger divisor = state.integral().gcd(state.weights());
-        told(state.integral());
         return told((part == 0 ? state.integral() : state.weights()).divide(divisor));
     }
 
     public double plainMean() {
-        return (double) told(state.values()) / state.held.size();
+        return state.values().doubleValue() / state.held.size();
     }
 
     public long energy() {
@@ -601,13 +600,17 @@ public final class Model {
 
     public long errorWith(int threshold, boolean isSoft) {
         range(threshold, 0, 9999);
-        return told(state.copy().cut(threshold, isSoft).differences().stream().reduce(BigInteger.ZERO, BigInteger::max));
+        return told(greatestDifference(threshold, isSoft));
+    }
+
+    private BigInteger greatestDifference(int threshold, boolean isSoft) {
+        return state.copy().cut(threshold, isSoft).differences().stream().reduce(BigInteger.ZERO, BigInteger::max);
     }
 
     public int bestThreshold(int error) {
         range(error, 0, 99999);
         for (int threshold = 1000; threshold >= 0; threshold--) {
-            if (errorWith(threshold, false) <= error) {
+            if (greatestDifference(threshold, false).compareTo(big(error)) <= 0) {
                 return threshold;
             }
         }
