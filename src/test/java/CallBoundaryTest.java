@@ -46,6 +46,7 @@ public final class CallBoundaryTest {
         promise36BestThresholdOfNone();
         promises37And38Schemes();
         promise38EachScheme();
+        promise38OfFullSignals();
         promises39And40Reasons();
         promises41And42Slots();
         Check.end();
@@ -497,6 +498,14 @@ public final class CallBoundaryTest {
         // 2, 0, 2 for 0, 2, 0
         Check.same("with a changed detail", lifted.error(1), 6);
         Check.same("nothing changes", lifted.count(2), 1);
+        LiftingSignal full = Check.loaded("update none; predict left;" + TextTest.samples(48));
+        full.forward(46);
+        full.setDetail(0, 7);
+        Check.same("the first of 46 steps", full.error(0), 7);
+        full.setDetail(0, 0);
+        full.setDetail(45, -7);
+        // all others are predicted from the sample of the last step, or from samples that are
+        Check.same("the last of 46 steps", full.error(0), 7);
     }
 
     private static void promise35ErrorWith() {
@@ -526,10 +535,27 @@ public final class CallBoundaryTest {
             Check.same("a detail of " + detail + " and less", near.bestThreshold(detail - 1), Math.min(detail, 1000));
             Check.same("a detail of " + detail + " and as much", near.bestThreshold(detail), 1000);
         }
+        LiftingSignal right = distinct();
+        Check.same("46 right details, 401 and more", right.bestThreshold(0), 401);
+        Check.same("one of them may be cut", right.bestThreshold(401), 402);
         LiftingSignal one = Check.loaded("update none; at 0 0; at 1 1; at 2 0;");
         one.lift(1);
         Check.same("a detail of 1", one.bestThreshold(0), 1);
         Check.same("without steps", new LiftingSignal().bestThreshold(0), 1000);
+    }
+
+    /** 46 steps with the details 401 to 446, all as they were: each one is predicted from the first sample, 0. */
+    private static LiftingSignal distinct() {
+        StringBuilder text = new StringBuilder("update none;predict left;at0 0;");
+        for (int sample = 1; sample <= 46; sample++) {
+            text.append("at").append(sample).append(' ').append(400 + sample).append(';');
+        }
+        LiftingSignal signal = Check.loaded(text.append("at47 0;").toString());
+        // from the left, so that each one's left neighbour is the first sample
+        for (int sample = 1; sample <= 46; sample++) {
+            signal.lift(sample);
+        }
+        return signal;
     }
 
     private static void promise36BestThresholdOfNone() {
@@ -579,6 +605,31 @@ public final class CallBoundaryTest {
         schemes("at 0 12; at 1 4; at 3 5; at 5 11;", 6, 9, 10, 9, 9, 10, 9, 7, 7, 8);
         schemes("at 0 4; at 3 13; at 7 17; at 10 17;", 7, 10, 8, 8, 10, 8, 8, 9, 6, 7);
         schemes("at 0 12; at 3 18; at 6 16; at 9 14;", 8, 7, 7, 8, 7, 7, 8, 7, 7, 5);
+    }
+
+    /** The scheme with the fewest bits is the one that bitsBy() tells, with 48 samples, too. */
+    private static void promise38OfFullSignals() {
+        for (int seed = 0; seed < 40; seed++) {
+            java.util.Random random = new java.util.Random(seed);
+            StringBuilder text = new StringBuilder();
+            int position = 0;
+            for (int sample = 0; sample < 48; sample++) {
+                text.append("at").append(position).append(' ').append(random.nextInt(1 << seed % 10)).append(';');
+                position += 1 + random.nextInt(1 + seed / 10);
+            }
+            LiftingSignal signal = Check.loaded(text.toString());
+            int best = 0;
+            for (int scheme = 1; scheme < 9; scheme++) {
+                if (signal.bitsBy(scheme / 3, scheme % 3) < signal.bitsBy(best / 3, best % 3)) {
+                    best = scheme;
+                }
+            }
+            Check.same("bestScheme of signal " + seed, signal.bestScheme(), best);
+            signal.setSplit(best / 3);
+            signal.setPredict(best % 3);
+            signal.forward(46);
+            Check.same("its bits", signal.bits(), signal.bitsBy(best / 3, best % 3));
+        }
     }
 
     private static void schemes(String text, int best, int... bits) {

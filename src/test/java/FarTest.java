@@ -1,3 +1,4 @@
+import java.math.BigInteger;
 import java.util.NoSuchElementException;
 
 /**
@@ -11,6 +12,7 @@ public final class FarTest {
             "predict near; at 0 9999; at 5591 9999; at 5592 -9999; at 5593 9999; at 5594 -9999; at 7922 9999;";
     private static final long GREAT = 5806140423950788745L;
     private static final long LOW = -5333835792846131266L;
+    private static final int MIDDLE = 6408;
 
     public static void main(String[] args) {
         theValuesAreFar();
@@ -119,6 +121,12 @@ public final class FarTest {
         signal.set(0, 0);
         signal.set(1, 0);
         Check.sameDouble("plainMean of a sum beyond a long", signal.plainMean(), -21335343171384525064.0 / 6);
+        // doubles are 4096 apart there: the sum lies in the middle of two, or a little beside it
+        for (int beside = -9; beside <= 9; beside++) {
+            signal.set(0, MIDDLE - beside);
+            BigInteger sum = BigInteger.valueOf(LOW).multiply(BigInteger.valueOf(4)).add(BigInteger.valueOf(MIDDLE - beside));
+            Check.sameDouble("plainMean beside the middle of two doubles", signal.plainMean(), sum.doubleValue() / 6);
+        }
     }
 
     private static void promise18BitsOfADetailBeyondALong() {
