@@ -1266,7 +1266,7 @@ public final class LiftingSignal {
             errorPosition = NONE;
             end = 0;
             into.clear();
-            toNextToken();
+            pass();
             return readSettings(into) && readSamples(into);
         }
 
@@ -1281,7 +1281,7 @@ public final class LiftingSignal {
                     return isWrong(REPEATED);
                 }
                 seen |= 1 << setting;
-                toNextToken();
+                pass();
                 if (!readSetting(setting, into) || !passSemicolon()) {
                     return false;
                 }
@@ -1340,7 +1340,7 @@ public final class LiftingSignal {
                 if (done == MOST_SAMPLES) {
                     return isWrong(TOO_MANY);
                 }
-                toNextToken();
+                pass();
                 if (!readSample(into) || !passSemicolon()) {
                     return false;
                 }
@@ -1356,10 +1356,10 @@ public final class LiftingSignal {
             if (into.count > 0 && at <= into.position[into.count - 1]) {
                 return isWrong(OUT_OF_RANGE);
             }
-            toNextToken();
+            pass();
             boolean isNegative = kind == MINUS;
             if (isNegative) {
-                toNextToken();
+                pass();
             }
             if (kind != NUMBER) {
                 return isWrong(CANNOT_STAND);
@@ -1370,11 +1370,6 @@ public final class LiftingSignal {
 
         private boolean passSemicolon() {
             return kind == SEMICOLON ? pass() : isWrong(CANNOT_STAND);
-        }
-
-        private boolean pass() {
-            toNextToken();
-            return true;
         }
 
         private boolean isWrong(int code) {
@@ -1397,7 +1392,8 @@ public final class LiftingSignal {
             return true;
         }
 
-        private void toNextToken() {
+        /** Goes on to the next token; true, as this is never an error. */
+        private boolean pass() {
             start = end;
             while (start < length && (bytes[start] == ' ' || bytes[start] == '\n')) {
                 start++;
@@ -1415,6 +1411,7 @@ public final class LiftingSignal {
                 kind = bytes[start] == ';' ? SEMICOLON : bytes[start] == '-' ? MINUS : WRONG;
                 end++;
             }
+            return true;
         }
 
         private void passLetters() {

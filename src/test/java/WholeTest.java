@@ -22,10 +22,13 @@ public final class WholeTest {
         private static final Class<?> WHOLE = find();
         private static final Map<String, Method> METHODS = methods();
         private static final Map<BigInteger, Reached> MADE = new HashMap<>();
+        private static final BigInteger BEFORE = BigInteger.ONE.shiftLeft(1100).subtract(BigInteger.ONE).negate();
         private final Object whole = make();
 
         static Reached of(BigInteger number) {
             Reached copy = new Reached();
+            // What was in the limbs before must not count.
+            copy.call("copyFrom", MADE.computeIfAbsent(BEFORE, Reached::built).whole);
             if (number.bitLength() < 64) {
                 copy.call("become", number.longValue());
             } else {
