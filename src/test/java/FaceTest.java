@@ -68,6 +68,11 @@ public final class FaceTest {
             if (!Modifier.isStatic(inside.getModifiers()) || Modifier.isPublic(inside.getModifiers())) {
                 Check.fail(inside + " is public or not static");
             }
+            for (Method method : inside.getDeclaredMethods()) {
+                if (names.contains(method.getName())) {
+                    Check.fail(method + " bears the name of a public one");
+                }
+            }
         }
     }
 
